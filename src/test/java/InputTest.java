@@ -52,7 +52,12 @@ public final class InputTest {
             Checks.is("append", 20 * i, archive.append(-1, -1, -1, -1, -1));
         }
         archive.append(0x20202000, -1, -1, -1, -1);
-        Checks.refusesState("601 bytes", () -> archive.append(0x20200000, 0, 0, 0, 0));
+        int two = 0x20002000;
+        Checks.refusesState("601 bytes by a", () -> archive.append(two, 0, 0, 0, 0));
+        Checks.refusesState("601 bytes by b", () -> archive.append(0, two, 0, 0, 0));
+        Checks.refusesState("601 bytes by c", () -> archive.append(0, 0, two, 0, 0));
+        Checks.refusesState("601 bytes by d", () -> archive.append(0, 0, 0, two, 0));
+        Checks.refusesState("601 bytes by e", () -> archive.append(0, 0, 0, 0, two));
         Checks.is("nothing was appended", 599, archive.append(0, 0, 0, 0, 0));
         Checks.is("600 bytes, with zeros among them", 600, archive.append(0, 0, 0x00200000, 0, 0));
         Checks.refusesState("a 601st byte", () -> archive.append(0, 0, 0, 0, 1));
@@ -117,6 +122,8 @@ public final class InputTest {
         Checks.is("nothing to undo", 0, archive.undoCount());
         Checks.refusesState("undo", archive::undo);
         Checks.refusesState("restore", archive::restore);
+        Checks.refusesIndex("no slip is left", () -> archive.scanSlip(0, 0));
+        Checks.refusesIndex("nor a scan", () -> archive.scan(0, 0));
     }
 
     private static void refusedLoad() {

@@ -143,6 +143,10 @@ public final class ReadingOrderTest {
         archive.label(1, 1, 3, 1);
         Checks.is("an empty label", 2, archive.findLabel(0));
         Checks.is("the next empty label", 3, archive.findLabel(3));
+        PageArchive shrunk = Checks.loaded("quire 4");
+        Checks.is("an empty label at the last place", 7, shrunk.findLabel(7));
+        shrunk.lose(3);
+        Checks.is("which is gone with its leaf", PageArchive.NONE, shrunk.findLabel(6));
         Checks.type(archive, "quire 12");
         archive.append(' ', 0, 0, 0, 0);
         Checks.is("a text longer than each label", PageArchive.NONE, archive.findLabel(0));

@@ -15,6 +15,7 @@ public final class ScansTest {
         orders();
         ordersOfEqualPlaces();
         ordersWithoutScans();
+        answersFollowTheLeaves();
         Checks.end();
     }
 
@@ -312,5 +313,32 @@ public final class ScansTest {
         archive.lose(0);
         Checks.is("longestRun without placed scans", 0, archive.longestRun());
         Checks.is("movesToOrder without placed scans", 0, archive.movesToOrder());
+    }
+
+    /** A setup is changed just before each question, so that no earlier answer can stand in. */
+    private static void answersFollowTheLeaves() {
+        PageArchive archive = scanned("quire 4", 2, 1, 0);
+        archive.lose(1);
+        Checks.is("inversions", 1, archive.inversions());
+        archive.find(1);
+        Checks.is("movesToOrder", 2, archive.movesToOrder());
+        archive.lose(2);
+        Checks.is("firstMisplaced", 2, archive.firstMisplaced());
+        archive.find(2);
+        Checks.is("firstMisplaced", 1, archive.firstMisplaced());
+        archive.scanLeaf(3, 0);
+        Checks.is("longestRun", 2, archive.longestRun());
+        archive.removeScan(2);
+        Checks.is("nextUncovered", 0, archive.nextUncovered(0));
+        archive.undo();
+        Checks.is("nextUncovered", 1, archive.nextUncovered(0));
+        archive.lose(0);
+        Checks.is("needless", 1, archive.needless());
+        archive.find(0);
+        Checks.is("uncovered", 4, archive.uncovered());
+        archive.lose(1);
+        Checks.is("sortScans", 4, archive.sortScans());
+        archive.find(1);
+        Checks.is("place", 2, archive.scan(3, 1));
     }
 }

@@ -35,6 +35,13 @@ public final class SetupTextTest {
         reads("^label 0 0 page 1");
         reads("^quires 4");
         reads("^quir 4");
+        reads("^wuire 4");
+        reads("^quirez 4");
+        reads("^aquire 4");
+        reads("quire^`4");
+        reads("quire^{4");
+        reads("quire^/4");
+        reads("quire^:4");
         reads("^Quire 4");
         reads("^4");
         reads("quire 4 ^4");
@@ -49,8 +56,10 @@ public final class SetupTextTest {
         reads("quire ^;quire 4");
         reads("quire 4;missing^");
         reads("quire 4;missing 1^.");
+        reads("quire 4;slip^");
         reads("quire 4;slip 0^");
         reads("quire 4;slip 0 recto^");
+        reads("quire 4;label^");
         reads("quire 4;label 0^");
         reads("quire 4;label 0 1^");
         reads("quire 4;label 0 1 page^");
