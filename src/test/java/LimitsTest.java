@@ -31,6 +31,7 @@ public final class LimitsTest {
         placesAndOpenings();
         numbersOfScans();
         largestArchive();
+        shortestAndLongestCollation();
         Checks.end();
     }
 
@@ -330,5 +331,26 @@ public final class LimitsTest {
         Checks.refusesArgument("no search starts at 123", () -> archive.findLabel(123));
         Checks.refusesIndex("opening 61", () -> archive.scanOpening(61));
         Checks.refusesState("turn to opening 61", () -> archive.turn(61));
+    }
+
+    /** Promise 23; no volume has a longer collation than eight quires of which four have 12 leaves. */
+    private static void shortestAndLongestCollation() {
+        Checks.is("the shortest one", "A2", Checks.collation(new PageArchive()));
+        PageArchive archive = Checks.loaded(
+                "quire 12;quire 12;quire 12;quire 12;quire 6;quire 2;quire 2;quire 2;missing 0 59");
+        String twelve = "12(-1,2,3,4,5,6,7,8,9,10,11,12) ";
+        Checks.is("the longest one", "A" + twelve + "B" + twelve + "C" + twelve + "D" + twelve
+                + "E6(-1,2,3,4,5,6) F2(-1,2) G2(-1,2) H2(-1,2)", Checks.collation(archive));
+        Checks.is("its length", 175, archive.formatCollation());
+        Checks.is("its last byte", ')', archive.formattedByte(174));
+        Checks.refusesIndex("behind it", () -> archive.formattedByte(175));
+        archive.find(0);
+        archive.find(11);
+        archive.find(58);
+        archive.find(59);
+        Checks.is("without the first and the last ones", "A12(-2,3,4,5,6,7,8,9,10,11) B" + twelve + "C" + twelve + "D"
+                + twelve + "E6(-1,2,3,4,5,6) F2(-1,2) G2(-1,2) H2", Checks.collation(archive));
+        PageArchive one = Checks.loaded("quire 10;quire 12;missing 9;missing 10;missing 21");
+        Checks.is("one missing leaf, two missing leaves", "A10(-10) B12(-1,12)", Checks.collation(one));
     }
 }
