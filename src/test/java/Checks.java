@@ -10,6 +10,8 @@ final class Checks {
 
     private static int count = 0;
     private static int wrong = 0;
+    private static PageArchive reader = new PageArchive();
+    private static int texts = 0;
 
     private Checks() {
     }
@@ -82,6 +84,20 @@ final class Checks {
             length = archive.append(words[0], words[1], words[2], words[3], words[4]);
         }
         return length;
+    }
+
+    /** The text is valid up to the sign ^, which is taken out; without one it is valid as a whole. */
+    static void reads(String marked) {
+        int due = marked.indexOf('^');
+        String text = due < 0 ? marked : marked.substring(0, due) + marked.substring(due + 1);
+        // An archive is used for 512 calls, and a text takes at most 33 of them.
+        if (texts++ % 10 == 0) {
+            reader = new PageArchive();
+        }
+        reader.truncate(0);
+        type(reader, text);
+        is("errorPosition of \"" + text + "\"", due, reader.errorPosition());
+        is("the length is kept", text.length(), reader.append(0, 0, 0, 0, 0));
     }
 
     /** An archive that was set up by a text. */

@@ -11,7 +11,7 @@ public final class HistoryTest {
     }
 
     private static PageArchive busy() {
-        PageArchive archive = Checks.loaded("quire 12;missing 4 5;slip 0 recto 2;slip 3 verso 1;label 0 3 folio 1");
+        PageArchive archive = Checks.loaded("quire 8;missing 4 5;slip 0 recto 2;slip 3 verso 1;label 0 3 folio 1");
         archive.scanLeaf(6, 0);
         archive.scanOpening(1);
         archive.turn(3);
@@ -27,7 +27,7 @@ public final class HistoryTest {
             changes[1] = () -> archive.find(4);
             changes[2] = () -> archive.attach(3, 1, 2);
             changes[3] = () -> archive.detach(0);
-            changes[4] = () -> archive.label(2, 9, 1, 5);
+            changes[4] = () -> archive.label(2, 7, 1, 5);
             changes[5] = () -> archive.scanLeaf(0, 1);
             changes[6] = () -> archive.scanOpening(3);
             changes[7] = () -> archive.scanSlip(0, 1);
@@ -37,7 +37,7 @@ public final class HistoryTest {
             changes[11] = () -> archive.turn(1);
             changes[12] = () -> archive.goTo(0);
             changes[13] = () -> archive.goBack();
-            String before = Checks.picture(archive);
+            String before = Checks.picture(busy());
             int count = archive.undoCount();
             changes[i].answer();
             Checks.isTrue("change " + i + " is seen", !before.equals(Checks.picture(archive)));
@@ -125,7 +125,7 @@ public final class HistoryTest {
 
     private static void saveAndRestore() {
         PageArchive archive = busy();
-        String before = Checks.picture(archive);
+        String before = Checks.picture(busy());
         Checks.refusesState("no copy", archive::restore);
         Checks.is("save", 2, archive.save());
         archive.scanLeaf(0, 0);
@@ -137,7 +137,7 @@ public final class HistoryTest {
         Checks.type(archive, "quire 4");
         Checks.is("restore", 2, archive.restore());
         Checks.is("the copy", before, Checks.picture(archive));
-        Checks.is("the formatted text is kept", "A12(-1,5,6)", Checks.formatted(archive, 11));
+        Checks.is("the formatted text is kept", "A8(-1,5,6)", Checks.formatted(archive, 10));
         Checks.is("the input buffer is kept", 7, archive.append(0, 0, 0, 0, 0));
         Checks.is("no history", 0, archive.undoCount());
         Checks.refusesState("undo", archive::undo);

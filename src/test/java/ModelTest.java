@@ -99,8 +99,7 @@ public final class ModelTest {
             text.append((char) model.formattedByte(i));
         }
         // The model's formatted text was replaced, so the archive's has to be too.
-        model.formatCollation();
-        archive.formatCollation();
+        call("formatCollation");
         return text.toString();
     }
 
@@ -208,7 +207,11 @@ public final class ModelTest {
         };
     }
 
+    /** What an archive answers after its last call is free, so it is not asked then. */
     private boolean call(String name, int... arguments) {
+        if (calls.size() >= CALLS) {
+            return true;
+        }
         String due = answer(model, name, arguments);
         String got = answer(archive, name, arguments);
         calls.add(name + Arrays.toString(arguments) + " answered " + got + ", due is " + due);

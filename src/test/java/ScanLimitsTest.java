@@ -20,6 +20,8 @@ public final class ScanLimitsTest {
         moveAtTheEnds();
         sortWithEqualPlaces();
         sortWithoutPlaces();
+        sortOfEveryOrder();
+        askedRightAfterAChange();
         sixtyFallingScans();
         equalPlacesAreNoInversion();
         runsAtTheEnds();
@@ -293,6 +295,47 @@ public final class ScanLimitsTest {
         archive.lose(2);
         Checks.is("none has a place", 0, archive.sortScans());
         Checks.is("all keep their order", "02313", rectos(archive));
+    }
+
+    /** All orders of four scans, of which two may be equal. */
+    private static void sortOfEveryOrder() {
+        for (int code = 0; code < 256; code++) {
+            int[] leaves = {code / 64, code / 16 % 4, code / 4 % 4, code % 4};
+            int[] sorted = leaves.clone();
+            java.util.Arrays.sort(sorted);
+            int moved = 0;
+            boolean[] isTaken = new boolean[4];
+            for (int scan = 0; scan < 4; scan++) {
+                int from = 0;
+                while (isTaken[from] || leaves[from] != sorted[scan]) {
+                    from++;
+                }
+                isTaken[from] = true;
+                moved += from == scan ? 0 : 1;
+            }
+            PageArchive archive = Makers.scanned(leaves);
+            Checks.is("sortScans of " + code, moved, archive.sortScans());
+            Checks.is("sorted " + code, "" + sorted[0] + sorted[1] + sorted[2] + sorted[3], rectos(archive));
+        }
+    }
+
+    /** Each answer is of the scans and leaves of now, whatever was asked before the change. */
+    private static void askedRightAfterAChange() {
+        Scene.Use[] questions = {x -> x.placeCount(), x -> x.uncovered(), x -> x.needless(), x -> x.inversions(),
+            x -> x.movesToOrder(), x -> x.longestRun(), x -> x.firstMisplaced(), x -> x.sortScans(), x -> x.moveScan(0, 1),
+            x -> x.nextUncovered(3), x -> x.opening(0, 4), x -> x.showing(1), x -> x.scan(3, 1), x -> x.placeOf(3, 1),
+            x -> x.sideAt(3, 0), x -> x.goTo(3), x -> x.sameLabels(0), x -> x.findLabel(5), x -> x.formatLabel(2)};
+        // The places of the scans are none, 4, 2 and 2.
+        int[] due = {6, 4, 2, 2, 1, 2, 2, 4, 2, 3, 0, 0, 2, 5, 2, 2, 6, 5, 0};
+        for (int i = 0; i < questions.length; i++) {
+            PageArchive archive = Makers.scanned(1, 3, 2, 2);
+            archive.inversions();
+            archive.lose(1);
+            Checks.is("question " + i, due[i], questions[i].on(archive));
+            PageArchive first = Makers.scanned(1, 3, 2, 2);
+            first.lose(1);
+            Checks.is("question " + i + ", the first one", due[i], questions[i].on(first));
+        }
     }
 
     private static void sixtyFallingScans() {

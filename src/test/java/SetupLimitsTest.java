@@ -2,8 +2,6 @@
 public final class SetupLimitsTest {
     private static final int NONE = PageArchive.NONE;
     private static final String SIXTY = "quire 12;quire 12;quire 12;quire 12;quire 12";
-    private static final PageArchive[] READERS = {new PageArchive()};
-    private static int texts = 0;
 
     public static void main(String[] args) {
         emptyAndFullBuffer();
@@ -32,20 +30,6 @@ public final class SetupLimitsTest {
         Checks.end();
     }
 
-    /** The text is valid up to the sign ^, which is taken out; without one it is valid as a whole. */
-    private static void reads(String marked) {
-        int due = marked.indexOf('^');
-        String text = due < 0 ? marked : marked.substring(0, due) + marked.substring(due + 1);
-        // An object is used for 512 calls, so a new one is taken from time to time.
-        if (texts++ % 10 == 0) {
-            READERS[0] = new PageArchive();
-        }
-        PageArchive archive = READERS[0];
-        archive.truncate(0);
-        Checks.type(archive, text);
-        Checks.is("errorPosition of \"" + text + "\"", due, archive.errorPosition());
-    }
-
     /** "if the buffer would have more than 600 bytes (nothing is appended then)" */
     private static void emptyAndFullBuffer() {
         PageArchive archive = new PageArchive();
@@ -64,13 +48,13 @@ public final class SetupLimitsTest {
         Checks.is("the 600th byte", 600, archive.append('6', 0, 0, 0, 0));
         Checks.is("load of a full buffer", 6, archive.load());
         Checks.is("it is empty", 0, archive.append(0, 0, 0, 0, 0));
-        reads(" ".repeat(600) + "^");
-        reads("quire 4" + " ".repeat(592) + "^x");
-        reads("quire 4;missing 0" + ";missing 0".repeat(58) + "   ");
-        reads("quire 4;missing 0" + ";missing 0".repeat(58) + "  ;^");
-        reads("^" + "a".repeat(600));
-        reads("quire ^" + "2".repeat(594));
-        reads("^" + ";".repeat(600));
+        Checks.reads(" ".repeat(600) + "^");
+        Checks.reads("quire 4" + " ".repeat(592) + "^x");
+        Checks.reads("quire 4;missing 0" + ";missing 0".repeat(58) + "   ");
+        Checks.reads("quire 4;missing 0" + ";missing 0".repeat(58) + "  ;^");
+        Checks.reads("^" + "a".repeat(600));
+        Checks.reads("quire ^" + "2".repeat(594));
+        Checks.reads("^" + ";".repeat(600));
     }
 
     /** "the most significant byte first. Bytes with the value 0 are skipped." */
@@ -95,150 +79,157 @@ public final class SetupLimitsTest {
 
     /** "a list of one or more statements separated by semicolons" */
     private static void oneOrMoreStatements() {
-        reads("^");
-        reads("quire 2");
-        reads("quire 2;^");
-        reads("^;");
-        reads("^;quire 2");
-        reads("quire 2;^;quire 2");
-        reads("quire 2;quire 2;^");
-        reads("quire 2 ^quire 2");
-        reads("quire 2^,quire 2");
-        reads("quire 2^:quire 2");
-        reads("quire 2;missing 1^.");
+        Checks.reads("^");
+        Checks.reads("quire 2");
+        Checks.reads("quire 2;^");
+        Checks.reads("^;");
+        Checks.reads("^;quire 2");
+        Checks.reads("quire 2;^;quire 2");
+        Checks.reads("quire 2;quire 2;^");
+        Checks.reads("quire 2 ^quire 2");
+        Checks.reads("quire 2^,quire 2");
+        Checks.reads("quire 2^:quire 2");
+        Checks.reads("quire 2;missing 1^.");
     }
 
     /** "quire N: the first statement; others follow it or come later" */
     private static void firstStatement() {
-        reads("^missing 0;quire 2");
-        reads("^slip 0 recto 1;quire 2");
-        reads("^label 0 0 page 1;quire 2");
-        reads("quire 2;missing 0;quire 2;quire 2");
-        reads("quire 2;slip 0 recto 1;label 0 1 page 1;missing 1;quire 2");
+        Checks.reads("^missing 0;quire 2");
+        Checks.reads("^slip 0 recto 1;quire 2");
+        Checks.reads("^label 0 0 page 1;quire 2");
+        Checks.reads("quire 2;missing 0;quire 2;quire 2");
+        Checks.reads("quire 2;slip 0 recto 1;label 0 1 page 1;missing 1;quire 2");
     }
 
     /** "words (maximal runs of the letters a to z), numbers (maximal runs of digits, at most four)" */
     private static void tokens() {
-        reads("^quir");
-        reads("^quiree 2");
-        reads("^quirequire 2");
-        reads("^Quire 2");
-        reads("^quirE 2");
-        reads("^qu1ire 2");
-        reads("quire^@2");
-        reads("quire^[2");
-        reads("quire^`2");
-        reads("quire^{2");
-        reads("quire^/2");
-        reads("quire^:2");
-        reads("quire ^+2");
-        reads("quire ^-2");
-        reads("quire 2^.0");
-        reads("quire2");
-        reads("quire 2;missing0");
-        reads("quire 4;missing 0 1^missing");
-        reads("quire 4;missing ^12");
-        reads("quire 4;missing 1 2");
-        reads("quire 4;label 0 1page1");
-        reads("quire 4;label 01^page 1");
-        reads("quire 4;slip0recto1;slip1verso2");
-        reads("quire 4;slip 0^rectoverso 1");
+        Checks.reads("^quir");
+        Checks.reads("^quiree 2");
+        Checks.reads("^quirequire 2");
+        Checks.reads("^Quire 2");
+        Checks.reads("^quirE 2");
+        Checks.reads("^qu1ire 2");
+        Checks.reads("^quirez 2");
+        Checks.reads("^quirea 2");
+        Checks.reads("^zquire 2");
+        Checks.reads("^wuire 2");
+        Checks.reads("quire 2;^aissing 0");
+        Checks.reads("quire 2;^alip 0 recto 1");
+        Checks.reads("quire 2;^aabel 0 1 page 1");
+        Checks.reads("quire^@2");
+        Checks.reads("quire^[2");
+        Checks.reads("quire^`2");
+        Checks.reads("quire^{2");
+        Checks.reads("quire^/2");
+        Checks.reads("quire^:2");
+        Checks.reads("quire ^+2");
+        Checks.reads("quire ^-2");
+        Checks.reads("quire 2^.0");
+        Checks.reads("quire2");
+        Checks.reads("quire 2;missing0");
+        Checks.reads("quire 4;missing 0 1^missing");
+        Checks.reads("quire 4;missing ^12");
+        Checks.reads("quire 4;missing 1 2");
+        Checks.reads("quire 4;label 0 1page1");
+        Checks.reads("quire 4;label 01^page 1");
+        Checks.reads("quire 4;slip0recto1;slip1verso2");
+        Checks.reads("quire 4;slip 0^rectoverso 1");
     }
 
     /** "Spaces (byte 32) may stand before and after every token." */
     private static void spaces() {
-        reads("  quire  4  ;  missing  0  1  ;  slip  2  recto  1  ;  label  0  3  page  1  ");
-        reads("^" + (char) 31 + "quire 2");
-        reads("^" + (char) 33 + "quire 2");
-        reads("quire^" + (char) 9 + "2");
-        reads("quire 2^" + (char) 10);
-        reads("quire 2^" + (char) 13);
-        reads("quire 2^" + (char) 160);
-        reads("quire 2^" + (char) 1);
-        reads("quire 2^" + (char) 255);
-        reads("   ^");
-        reads("   ^missing 0");
-        reads("quire 2   ^2");
-        reads("quire   ^3");
-        reads("quire 2;   ^");
-        reads("^q uire 2");
-        reads("quire 1 2".replace("1 2", "^1 2"));
+        Checks.reads("  quire  4  ;  missing  0  1  ;  slip  2  recto  1  ;  label  0  3  page  1  ");
+        Checks.reads("^" + (char) 31 + "quire 2");
+        Checks.reads("^" + (char) 33 + "quire 2");
+        Checks.reads("quire^" + (char) 9 + "2");
+        Checks.reads("quire 2^" + (char) 10);
+        Checks.reads("quire 2^" + (char) 13);
+        Checks.reads("quire 2^" + (char) 160);
+        Checks.reads("quire 2^" + (char) 1);
+        Checks.reads("quire 2^" + (char) 255);
+        Checks.reads("   ^");
+        Checks.reads("   ^missing 0");
+        Checks.reads("quire 2   ^2");
+        Checks.reads("quire   ^3");
+        Checks.reads("quire 2;   ^");
+        Checks.reads("^q uire 2");
+        Checks.reads("quire ^1 2");
     }
 
     /** "a number out of its range or of more than four digits" */
     private static void fourDigits() {
-        reads("quire 02");
-        reads("quire 002");
-        reads("quire 0002");
-        reads("quire ^00002");
-        reads("quire ^9999");
-        reads("quire ^10000");
-        reads("quire ^4294967298");
-        reads("quire ^65538");
-        reads("quire 2;missing 0000");
-        reads("quire 2;missing ^00000");
-        reads("quire 2;missing 0 0001");
-        reads("quire 2;missing 0 ^00001");
-        reads("quire 2;slip 0001 recto 0002");
-        reads("quire 2;slip ^00001 recto 1");
-        reads("quire 2;slip 1 recto ^00001");
-        reads("quire 2;label 0000 0001 page 0999");
-        reads("quire 2;label ^00000 1 page 1");
-        reads("quire 2;label 0 ^00001 page 1");
-        reads("quire 2;label 0 1 page ^00999");
-        reads("quire 2 ^00002");
+        Checks.reads("quire 02");
+        Checks.reads("quire 002");
+        Checks.reads("quire 0002");
+        Checks.reads("quire ^00002");
+        Checks.reads("quire ^9999");
+        Checks.reads("quire ^10000");
+        Checks.reads("quire ^4294967298");
+        Checks.reads("quire ^65538");
+        Checks.reads("quire 2;missing 0000");
+        Checks.reads("quire 2;missing ^00000");
+        Checks.reads("quire 2;missing 0 0001");
+        Checks.reads("quire 2;missing 0 ^00001");
+        Checks.reads("quire 2;slip 0001 recto 0002");
+        Checks.reads("quire 2;slip ^00001 recto 1");
+        Checks.reads("quire 2;slip 1 recto ^00001");
+        Checks.reads("quire 2;label 0000 0001 page 0999");
+        Checks.reads("quire 2;label ^00000 1 page 1");
+        Checks.reads("quire 2;label 0 ^00001 page 1");
+        Checks.reads("quire 2;label 0 1 page ^00999");
+        Checks.reads("quire 2 ^00002");
     }
 
     /** "an odd number of leaves, a number of leaves by which there would be more than 60" */
     private static void numbersOfLeaves() {
         for (int leaves = 0; leaves <= 16; leaves++) {
             boolean isTaken = leaves >= 2 && leaves <= 12 && leaves % 2 == 0;
-            reads("quire " + (isTaken ? "" : "^") + leaves);
-            reads("quire 2;quire " + (isTaken ? "" : "^") + leaves);
+            Checks.reads("quire " + (isTaken ? "" : "^") + leaves);
+            Checks.reads("quire 2;quire " + (isTaken ? "" : "^") + leaves);
         }
-        reads(SIXTY);
-        reads(SIXTY + ";quire ^2");
-        reads(SIXTY + ";quire ^12");
-        reads("quire 12;quire 12;quire 12;quire 12;quire 10;quire 2");
-        reads("quire 12;quire 12;quire 12;quire 12;quire 10;quire ^4");
-        reads("quire 12;quire 12;quire 12;quire 12;quire 2;quire 10");
-        reads("quire 12;quire 12;quire 12;quire 12;quire 2;quire ^12");
-        reads(SIXTY + ";missing 59;label 0 59 page 1;slip 58 verso 2");
+        Checks.reads(SIXTY);
+        Checks.reads(SIXTY + ";quire ^2");
+        Checks.reads(SIXTY + ";quire ^12");
+        Checks.reads("quire 12;quire 12;quire 12;quire 12;quire 10;quire 2");
+        Checks.reads("quire 12;quire 12;quire 12;quire 12;quire 10;quire ^4");
+        Checks.reads("quire 12;quire 12;quire 12;quire 12;quire 2;quire 10");
+        Checks.reads("quire 12;quire 12;quire 12;quire 12;quire 2;quire ^12");
+        Checks.reads(SIXTY + ";missing 59;label 0 59 page 1;slip 58 verso 2");
     }
 
     /** "a LEAF that does not exist, a TO that does not exist" */
     private static void leafThatDoesNotExist() {
-        reads("quire 4;missing 3");
-        reads("quire 4;missing ^4");
-        reads("quire 4;missing ^9999");
-        reads("quire 4;missing 0 3");
-        reads("quire 4;missing 0 ^4");
-        reads("quire 4;missing 3 ^4");
-        reads("quire 4;slip 3 recto 1");
-        reads("quire 4;slip ^4 recto 1");
-        reads("quire 4;label 3 3 page 1");
-        reads("quire 4;label ^4 4 page 1");
-        reads("quire 4;label 0 ^4 page 1");
-        reads(SIXTY + ";missing 0 59");
-        reads(SIXTY + ";missing 0 ^60");
-        reads(SIXTY + ";missing ^60");
-        reads(SIXTY + ";slip 59 verso 2");
-        reads(SIXTY + ";slip ^60 verso 2");
-        reads(SIXTY + ";label 59 59 none 999");
-        reads(SIXTY + ";label 59 ^60 none 999");
-        reads(SIXTY + ";label ^60 60 none 999");
+        Checks.reads("quire 4;missing 3");
+        Checks.reads("quire 4;missing ^4");
+        Checks.reads("quire 4;missing ^9999");
+        Checks.reads("quire 4;missing 0 3");
+        Checks.reads("quire 4;missing 0 ^4");
+        Checks.reads("quire 4;missing 3 ^4");
+        Checks.reads("quire 4;slip 3 recto 1");
+        Checks.reads("quire 4;slip ^4 recto 1");
+        Checks.reads("quire 4;label 3 3 page 1");
+        Checks.reads("quire 4;label ^4 4 page 1");
+        Checks.reads("quire 4;label 0 ^4 page 1");
+        Checks.reads(SIXTY + ";missing 0 59");
+        Checks.reads(SIXTY + ";missing 0 ^60");
+        Checks.reads(SIXTY + ";missing ^60");
+        Checks.reads(SIXTY + ";slip 59 verso 2");
+        Checks.reads(SIXTY + ";slip ^60 verso 2");
+        Checks.reads(SIXTY + ";label 59 59 none 999");
+        Checks.reads(SIXTY + ";label 59 ^60 none 999");
+        Checks.reads(SIXTY + ";label ^60 60 none 999");
     }
 
     /** "Leaves are those of the quires that stand before the statement." */
     private static void leavesOfTheQuiresBefore() {
-        reads("quire 2;missing ^2;quire 2");
-        reads("quire 2;quire 2;missing 2");
-        reads("quire 2;missing 1 ^2;quire 2");
-        reads("quire 2;slip ^2 recto 1;quire 2");
-        reads("quire 2;quire 2;slip 3 recto 1");
-        reads("quire 2;label 0 ^2 page 1;quire 2");
-        reads("quire 2;label ^3 3 page 1;quire 2");
-        reads("quire 2;quire 2;label 0 3 page 1");
+        Checks.reads("quire 2;missing ^2;quire 2");
+        Checks.reads("quire 2;quire 2;missing 2");
+        Checks.reads("quire 2;missing 1 ^2;quire 2");
+        Checks.reads("quire 2;slip ^2 recto 1;quire 2");
+        Checks.reads("quire 2;quire 2;slip 3 recto 1");
+        Checks.reads("quire 2;label 0 ^2 page 1;quire 2");
+        Checks.reads("quire 2;label ^3 3 page 1;quire 2");
+        Checks.reads("quire 2;quire 2;label 0 3 page 1");
         PageArchive archive = Checks.loaded("quire 2;missing 0 1;label 0 1 page 1;quire 2");
         Checks.is("later leaves are present", 1, archive.leaf(2, 0));
         Checks.is("later leaves have no label", "", Checks.leafLabel(archive, 2, 0));
@@ -246,116 +237,116 @@ public final class SetupLimitsTest {
 
     /** "a TO that does not exist or is less than LEAF" */
     private static void toThatIsLess() {
-        reads("quire 4;missing 2 2");
-        reads("quire 4;missing 2 3");
-        reads("quire 4;missing 2 ^1");
-        reads("quire 4;missing 1 ^0");
-        reads("quire 4;label 2 2 page 1");
-        reads("quire 4;label 2 3 page 1");
-        reads("quire 4;label 2 ^1 page 1");
-        reads("quire 4;label 3 ^0 page 1");
+        Checks.reads("quire 4;missing 2 2");
+        Checks.reads("quire 4;missing 2 3");
+        Checks.reads("quire 4;missing 2 ^1");
+        Checks.reads("quire 4;missing 1 ^0");
+        Checks.reads("quire 4;label 2 2 page 1");
+        Checks.reads("quire 4;label 2 3 page 1");
+        Checks.reads("quire 4;label 2 ^1 page 1");
+        Checks.reads("quire 4;label 3 ^0 page 1");
     }
 
     /** "a LEAF, or a TO, by which a leaf with a slip would be missing" */
     private static void missingAndSlips() {
         String slip = "quire 6;slip 2 recto 1;";
-        reads(slip + "missing ^2");
-        reads(slip + "missing ^2 2");
-        reads(slip + "missing ^2 5");
-        reads(slip + "missing 1 ^2");
-        reads(slip + "missing 0 ^3");
-        reads(slip + "missing 0 ^5");
-        reads(slip + "missing 0 1");
-        reads(slip + "missing 3 5");
-        reads(slip + "missing 1;missing 3");
-        reads(slip + "missing 3 ^1");
-        reads(slip + "missing 0 ^6");
-        reads("quire 6;slip 2 verso 2;missing ^2");
-        reads("quire 6;slip 0 recto 1;missing ^0 1");
-        reads("quire 6;slip 5 verso 1;missing 4 ^5");
-        reads("quire 6;slip 5 verso 1;missing 0 4");
-        reads("quire 6;slip 0 recto 1;slip 5 recto 1;missing 1 4");
-        reads("quire 6;missing 2;missing 2");
-        reads("quire 6;missing 1 3;missing 0 5");
+        Checks.reads(slip + "missing ^2");
+        Checks.reads(slip + "missing ^2 2");
+        Checks.reads(slip + "missing ^2 5");
+        Checks.reads(slip + "missing 1 ^2");
+        Checks.reads(slip + "missing 0 ^3");
+        Checks.reads(slip + "missing 0 ^5");
+        Checks.reads(slip + "missing 0 1");
+        Checks.reads(slip + "missing 3 5");
+        Checks.reads(slip + "missing 1;missing 3");
+        Checks.reads(slip + "missing 3 ^1");
+        Checks.reads(slip + "missing 0 ^6");
+        Checks.reads("quire 6;slip 2 verso 2;missing ^2");
+        Checks.reads("quire 6;slip 0 recto 1;missing ^0 1");
+        Checks.reads("quire 6;slip 5 verso 1;missing 4 ^5");
+        Checks.reads("quire 6;slip 5 verso 1;missing 0 4");
+        Checks.reads("quire 6;slip 0 recto 1;slip 5 recto 1;missing 1 4");
+        Checks.reads("quire 6;missing 2;missing 2");
+        Checks.reads("quire 6;missing 1 3;missing 0 5");
     }
 
     /** "the LEAF of a slip that is missing" */
     private static void slipOnAMissingLeaf() {
         String missing = "quire 6;missing 2 3;";
-        reads(missing + "slip 1 recto 1");
-        reads(missing + "slip ^2 recto 1");
-        reads(missing + "slip ^3 recto 1");
-        reads(missing + "slip 4 recto 1");
-        reads("quire 2;missing 0 1;slip ^1 recto 1");
-        reads("quire 2;missing 0 1;quire 2;slip 2 verso 1");
-        reads("quire 4;slip 1 recto 1;slip 1 recto 2;slip 1 verso 1");
+        Checks.reads(missing + "slip 1 recto 1");
+        Checks.reads(missing + "slip ^2 recto 1");
+        Checks.reads(missing + "slip ^3 recto 1");
+        Checks.reads(missing + "slip 4 recto 1");
+        Checks.reads("quire 2;missing 0 1;slip ^1 recto 1");
+        Checks.reads("quire 2;missing 0 1;quire 2;slip 2 verso 1");
+        Checks.reads("quire 4;slip 1 recto 1;slip 1 recto 2;slip 1 verso 1");
     }
 
     /** "SIDE is recto or verso, N is 1 or 2", "STYLE is folio, page, roman or none" */
     private static void sidesAndStyles() {
-        reads("quire 2;slip 0 recto 1");
-        reads("quire 2;slip 0 verso 2");
-        reads("quire 2;slip 0 recto ^0");
-        reads("quire 2;slip 0 verso ^3");
-        reads("quire 2;slip 0 ^rect 1");
-        reads("quire 2;slip 0 ^versos 1");
-        reads("quire 2;slip 0 ^page 1");
-        reads("quire 2;slip 0 ^1 1");
-        reads("quire 2;slip 0 recto ^verso");
+        Checks.reads("quire 2;slip 0 recto 1");
+        Checks.reads("quire 2;slip 0 verso 2");
+        Checks.reads("quire 2;slip 0 recto ^0");
+        Checks.reads("quire 2;slip 0 verso ^3");
+        Checks.reads("quire 2;slip 0 ^rect 1");
+        Checks.reads("quire 2;slip 0 ^versos 1");
+        Checks.reads("quire 2;slip 0 ^page 1");
+        Checks.reads("quire 2;slip 0 ^1 1");
+        Checks.reads("quire 2;slip 0 recto ^verso");
         for (String style : new String[] {"folio", "page", "roman", "none"}) {
-            reads("quire 2;label 0 1 " + style + " 1");
-            reads("quire 2;label 0 1 ^" + style + "s 1");
-            reads("quire 2;label 0 1 ^" + style.substring(0, style.length() - 1) + " 1");
+            Checks.reads("quire 2;label 0 1 " + style + " 1");
+            Checks.reads("quire 2;label 0 1 ^" + style + "s 1");
+            Checks.reads("quire 2;label 0 1 ^" + style.substring(0, style.length() - 1) + " 1");
         }
-        reads("quire 2;label 0 1 ^recto 1");
-        reads("quire 2;label 0 1 ^1 1");
-        reads("quire 2;label 0 ^page 1");
+        Checks.reads("quire 2;label 0 1 ^recto 1");
+        Checks.reads("quire 2;label 0 1 ^1 1");
+        Checks.reads("quire 2;label 0 ^page 1");
     }
 
     private static void startOfALabel() {
-        reads("quire 2;label 0 1 page ^0");
-        reads("quire 2;label 0 1 page 1");
-        reads("quire 2;label 0 1 page 999");
-        reads("quire 2;label 0 1 page ^1000");
-        reads("quire 2;label 0 1 page ^9999");
-        reads("quire 2;label 0 1 none ^0");
-        reads("quire 2;label 0 1 none ^1000");
-        reads("quire 2;label 0 1 page ^page");
+        Checks.reads("quire 2;label 0 1 page ^0");
+        Checks.reads("quire 2;label 0 1 page 1");
+        Checks.reads("quire 2;label 0 1 page 999");
+        Checks.reads("quire 2;label 0 1 page ^1000");
+        Checks.reads("quire 2;label 0 1 page ^9999");
+        Checks.reads("quire 2;label 0 1 none ^0");
+        Checks.reads("quire 2;label 0 1 none ^1000");
+        Checks.reads("quire 2;label 0 1 page ^page");
     }
 
     /** "the word of a statement of which there are too many (a 9th quire, a 13th slip or label)" */
     private static void tooManyStatements() {
         String eight = "quire 2" + ";quire 2".repeat(7);
-        reads(eight);
-        reads(eight + ";^quire 2");
-        reads(eight + ";^quire 3");
-        reads(eight + ";^quire");
-        reads(eight + ";missing 15;slip 14 recto 1;label 0 15 page 1");
-        reads("quire 8;quire 8;quire 8;quire 8;quire 8;quire 8;quire 8;quire 4;^quire 2");
+        Checks.reads(eight);
+        Checks.reads(eight + ";^quire 2");
+        Checks.reads(eight + ";^quire 3");
+        Checks.reads(eight + ";^quire");
+        Checks.reads(eight + ";missing 15;slip 14 recto 1;label 0 15 page 1");
+        Checks.reads("quire 8;quire 8;quire 8;quire 8;quire 8;quire 8;quire 8;quire 4;^quire 2");
         String slips = "quire 2" + ";slip 0 recto 1".repeat(12);
-        reads(slips);
-        reads(slips + ";^slip 0 recto 1");
-        reads(slips + ";^slip 9 recto 1");
-        reads(slips + ";^slip");
-        reads(slips + ";missing 1;quire 2;label 0 3 page 1");
+        Checks.reads(slips);
+        Checks.reads(slips + ";^slip 0 recto 1");
+        Checks.reads(slips + ";^slip 9 recto 1");
+        Checks.reads(slips + ";^slip");
+        Checks.reads(slips + ";missing 1;quire 2;label 0 3 page 1");
         String labels = "quire 2" + ";label 0 1 page 1".repeat(12);
-        reads(labels);
-        reads(labels + ";^label 0 1 page 1");
-        reads(labels + ";^label 9 9 page 1");
-        reads(labels + ";^label");
-        reads(labels + ";missing 1;quire 2;slip 0 recto 1");
-        reads("quire 2" + ";missing 0".repeat(40));
-        reads("quire 2;slip 1 verso 2" + ";missing 0".repeat(13) + ";quire 2");
+        Checks.reads(labels);
+        Checks.reads(labels + ";^label 0 1 page 1");
+        Checks.reads(labels + ";^label 9 9 page 1");
+        Checks.reads(labels + ";^label");
+        Checks.reads(labels + ";missing 1;quire 2;slip 0 recto 1");
+        Checks.reads("quire 2" + ";missing 0".repeat(40));
+        Checks.reads("quire 2;slip 1 verso 2" + ";missing 0".repeat(13) + ";quire 2");
     }
 
     /** A word is taken though each number behind it must fail: the number is the token that is not accepted. */
     private static void wordsBeforeNumbers() {
-        reads(SIXTY + ";quire^");
-        reads(SIXTY + ";quire ^2");
-        reads("quire 2;missing 0 1;slip^");
-        reads("quire 2;missing 0 1;slip ^0 recto 1");
-        reads("quire 2;slip 0 recto 1;slip 1 recto 1;missing^");
-        reads("quire 2;slip 0 recto 1;slip 1 recto 1;missing ^1");
+        Checks.reads(SIXTY + ";quire^");
+        Checks.reads(SIXTY + ";quire ^2");
+        Checks.reads("quire 2;missing 0 1;slip^");
+        Checks.reads("quire 2;missing 0 1;slip ^0 recto 1");
+        Checks.reads("quire 2;slip 0 recto 1;slip 1 recto 1;missing^");
+        Checks.reads("quire 2;slip 0 recto 1;slip 1 recto 1;missing ^1");
     }
 
     /** "or the length of the text if the text ends too early" */
@@ -364,41 +355,41 @@ public final class SetupLimitsTest {
             "quire 4;label", "quire 4;label 0", "quire 4;label 0 1", "quire 4;label 0 1 page", "quire 4;missing 0;",
             "quire 4;missing 0 1;", "quire 4;slip 0 recto 1;", "quire 4;label 0 1 page 1;"};
         for (String part : parts) {
-            reads(part + "^");
-            reads(part + "  ^");
+            Checks.reads(part + "^");
+            Checks.reads(part + "  ^");
         }
-        reads("quire 4;missing 0");
-        reads("quire 4;missing 0  ");
+        Checks.reads("quire 4;missing 0");
+        Checks.reads("quire 4;missing 0  ");
     }
 
     /** "and every token with which no text can continue" */
     private static void tokensThatCannotFollow() {
-        reads("^4");
-        reads("^;");
-        reads("^recto");
-        reads("quire ^quire");
-        reads("quire ^;");
-        reads("quire 4 ^4");
-        reads("quire 4 ^recto");
-        reads("quire 4;^4");
-        reads("quire 4;^recto");
-        reads("quire 4;^leaf 1");
-        reads("quire 4;missing ^;");
-        reads("quire 4;missing 0 ^to");
-        reads("quire 4;missing 0 1 ^2");
-        reads("quire 4;missing 0^,1");
-        reads("quire 4;missing 0^-1");
-        reads("quire 4;slip ^recto");
-        reads("quire 4;slip ^;");
-        reads("quire 4;slip 0 ^;");
-        reads("quire 4;slip 0 recto ^;");
-        reads("quire 4;slip 0 recto 1 ^1");
-        reads("quire 4;label ^page");
-        reads("quire 4;label 0 ^;");
-        reads("quire 4;label 0 1 ^;");
-        reads("quire 4;label 0 1 page ^;");
-        reads("quire 4;label 0 1 page 1 ^1");
-        reads("quire 4;missing ^7;missing 8;^");
+        Checks.reads("^4");
+        Checks.reads("^;");
+        Checks.reads("^recto");
+        Checks.reads("quire ^quire");
+        Checks.reads("quire ^;");
+        Checks.reads("quire 4 ^4");
+        Checks.reads("quire 4 ^recto");
+        Checks.reads("quire 4;^4");
+        Checks.reads("quire 4;^recto");
+        Checks.reads("quire 4;^leaf 1");
+        Checks.reads("quire 4;missing ^;");
+        Checks.reads("quire 4;missing 0 ^to");
+        Checks.reads("quire 4;missing 0 1 ^2");
+        Checks.reads("quire 4;missing 0^,1");
+        Checks.reads("quire 4;missing 0^-1");
+        Checks.reads("quire 4;slip ^recto");
+        Checks.reads("quire 4;slip ^;");
+        Checks.reads("quire 4;slip 0 ^;");
+        Checks.reads("quire 4;slip 0 recto ^;");
+        Checks.reads("quire 4;slip 0 recto 1 ^1");
+        Checks.reads("quire 4;label ^page");
+        Checks.reads("quire 4;label 0 ^;");
+        Checks.reads("quire 4;label 0 1 ^;");
+        Checks.reads("quire 4;label 0 1 page ^;");
+        Checks.reads("quire 4;label 0 1 page 1 ^1");
+        Checks.reads("quire 4;missing ^7;missing 8");
     }
 
     /** "as by the text "quire 2", with an empty input buffer" */
